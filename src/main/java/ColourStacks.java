@@ -18,6 +18,7 @@ public final class ColourStacks {
     private static final int MOST_DRAWN = 4, MOST_SEEDS = 20;
     private static final int TAPE_BYTES = 80, LETTERS = 127;
     private static final int LISTS = 4, LIST_PLACES = 18, ROW = 3;
+    private static final int GREATEST_INT = 0x7fffffff;
 
     private final Scene scene;
     private final Scene picture;
@@ -91,9 +92,7 @@ public final class ColourStacks {
     public int stack() {
         int fault = tape.readStack(scene.sheetCount);
         tape.size = 0;
-        if (fault >= 0) return FAULT_BASE - fault;
-        if (scene.stackCount >= STACKS) return FULL;
-        return scene.addStack(tape.letters, tape.letterCount);
+        return fault >= 0 ? FAULT_BASE - fault : scene.addStack(tape.letters, tape.letterCount);
     }
 
     public int lay(int stack, int sheet) {
@@ -529,7 +528,7 @@ public final class ColourStacks {
             sheetCount++;
         }
 
-        /** Answers the new stack's number. */
+        /** Answers the new stack's number, or FULL. */
         int addStack(int[] row, int height) {
             int stack = stackCount;
             if (stack >= STACKS) return FULL;
@@ -641,7 +640,7 @@ public final class ColourStacks {
             int z = seed;
             for (int i = 0; i < k; i++) {
                 z = z * 1103515245 + 12345;
-                int draw = (z & Integer.MAX_VALUE) / 65536;
+                int draw = (z & GREATEST_INT) / 65536;
                 if (scene.sheetCount > 0) add(draw % scene.sheetCount);
             }
         }
@@ -723,7 +722,8 @@ public final class ColourStacks {
             for (int size = 0; size <= FEWEST_HEIGHT && found == 0; size++) {
                 boolean more = begin(size);
                 for (int i = 0; i < MOST_OF_A_SIZE && more; i++) {
-                    if (missOf(size, lamp) == 0) {
+                    pileTried(size);
+                    if (isWished(lamp)) {
                         if (found == 0) keep(size, 0);
                         found++;
                     }
@@ -734,11 +734,12 @@ public final class ColourStacks {
 
         void seekNearest(int lamp) {
             light.lookAtSheets();
-            bestMiss = Integer.MAX_VALUE;
+            bestMiss = GREATEST_INT;
             for (int size = 0; size <= NEAREST_HEIGHT; size++) {
                 boolean more = begin(size);
                 for (int i = 0; i < MOST_OF_A_SIZE && more; i++) {
-                    int miss = missOf(size, lamp);
+                    pileTried(size);
+                    int miss = missOf(lamp);
                     if (miss < bestMiss) keep(size, miss);
                     more = goOn(size);
                 }
@@ -769,10 +770,21 @@ public final class ColourStacks {
             bestMiss = miss;
         }
 
-        /** By how much the shades of what is tried differ from the wish. */
-        private int missOf(int size, int lamp) {
+        private void pileTried(int size) {
             light.clear();
             for (int i = 0; i < size && i < tried.length; i++) light.add(tried[i]);
+        }
+
+        /** Stops at the first eye that sees another shade, as nearly all piles are not the wish. */
+        private boolean isWished(int lamp) {
+            for (int eye = 0; eye < EYES; eye++) {
+                if (light.shadeOf(lamp, 0, eye) != scene.wished[eye]) return false;
+            }
+            return true;
+        }
+
+        /** By how much the shades of what is tried differ from the wish. */
+        private int missOf(int lamp) {
             light.shadesInto(shades, lamp, 0);
             return differing(shades, scene.wished);
         }

@@ -204,6 +204,8 @@ public final class JudgedTest {
         due("29 no stack", x.judge(0, 0), 0);
         Check.stack(x, "-");
         due("29 otherwise", x.judge(0, 0), 0);
+        Check.tell(x, 0, 54, 45, 54, 54, 45, 54);
+        due("29 no second stack", x.judge(0, 0), 3);
         Check.tell(x, 0, 54, 45, 54);
         due("29 as told", x.judge(0, 0), Check.NOT);
         Check.tell(x, 0, 54, 45, 53);
@@ -253,6 +255,8 @@ public final class JudgedTest {
         due("30 it is done", x.sheet(1, 12), 5);
         due("30 no half of a row", x.sheet(1, 13), 9);
         due("30 as it was counts, too", x.change(1), 1);
+        Check.tell(x, 2, 1, 0, 1);
+        due("30 what was 0 counts, too", x.change(2), 1);
         Check.tell(x, 1, 0, 0);
         due("30 no row", x.change(1), 0);
         x.list(1, 0);
@@ -262,6 +266,6 @@ public final class JudgedTest {
         due("30 nothing changed", x.sheet(0, 10), 1);
         due("30 list", x.change(4), Check.NONE);
         due("30 list below", x.change(-1), Check.NONE);
-        due("30 nothing", x.change(2), Check.NOTHING);
+        due("30 nothing", x.change(3), Check.NOTHING);
     }
 }

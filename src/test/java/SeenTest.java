@@ -13,6 +13,7 @@ public final class SeenTest {
         alike();
         alikeExactly();
         falsePairs();
+        falsePairByOneLamp();
         ranked();
         highest();
         CHECK.done();
@@ -158,6 +159,21 @@ public final class SeenTest {
         due("17 lamp below", x.falsePairs(-1, 0), Check.NONE);
         due("17 what", x.falsePairs(0, 2), Check.NONE);
         due("17 what below", x.falsePairs(0, -1), Check.NONE);
+    }
+
+    /** By one lamp alone two stacks look otherwise; by each of the others they are a false pair. */
+    private static void falsePairByOneLamp() {
+        for (int telling = 0; telling < 3; telling++) {
+            ColourStacks x = new ColourStacks();
+            Check.sheets(x, "glass 0 3,9,9,9,9;glass 0 0,9,9,9,9");
+            Check.stack(x, "a");
+            Check.stack(x, "b");
+            for (int lamp = 0; lamp < 3; lamp++) if (lamp != telling) x.power(lamp, 0, 0);
+            for (int lamp = 0; lamp < 3; lamp++) {
+                due("17 lamp " + telling + " tells, by " + lamp, x.falsePairs(lamp, 0), lamp == telling ? 0 : 1);
+                due("17 first, lamp " + telling + " tells, by " + lamp, x.falsePairs(lamp, 1), lamp == telling ? -5 : 1);
+            }
+        }
     }
 
     private static void ranked() {

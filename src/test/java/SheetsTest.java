@@ -172,6 +172,8 @@ public final class SheetsTest {
         x.becomes(0, 5, 0);
         x.number(0, 4, 8);
         due("6 clear", x.sheet(0, 20), 90);
+        for (int band = 0; band < 5; band++) x.number(0, band, 0);
+        due("6 clear of nothing", x.sheet(0, 22), 0);
         int[] none = {-1, 2, 9, 15, 19, 25, Integer.MIN_VALUE, Integer.MAX_VALUE};
         for (int what : none) due("6 what " + what, x.sheet(0, what), Check.NONE);
         due("6 sheet above", x.sheet(1, 0), Check.NONE);

@@ -233,6 +233,12 @@ public final class WishesTest {
         // 0.81 and 2.43 together are 3.24, and with three tenths of 0.81 less 2.997
         x.number(1, 4, 9);
         due("24 three tenths off", x.fades(2, 2), 3);
+        // 0.4 and 0.96: 1.36, 1 exactly nine tenths off, 0.96 ten tenths off
+        x.power(2, 0, 1);
+        x.becomes(1, 2, 4);
+        x.number(1, 0, 10);
+        x.number(1, 4, 8);
+        due("24 all tenths off", x.fades(2, 2), 10);
         due("24 stack", x.fades(3, 0), Check.NONE);
         due("24 stack below", x.fades(-1, 0), Check.NONE);
         due("24 lamp", x.fades(0, 3), Check.NONE);
