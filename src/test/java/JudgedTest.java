@@ -156,7 +156,8 @@ public final class JudgedTest {
 
     private static void spelled(ColourStacks x, int stack, String want) {
         due("27 length of " + want, x.spell(stack), want.length());
-        due("27 '" + want + "' against '" + Check.paper(x) + "'", Check.paper(x).equals(want) ? 1 : 0, 1);
+        String paper = Check.paper(x);
+        due("27 '" + want + "' against '" + paper + "'", paper.equals(want) ? 1 : 0, 1);
         due("36 paper of " + want, x.count(3), want.length());
     }
 

@@ -3,7 +3,8 @@
  * generator with a fixed seed, so that each run of this test is the same.
  */
 public final class ModelTest {
-    private static final int RUNS = 400, CALLS = 512;
+    /** The document promises an object's first 512 calls; no step of a run has more calls than LONGEST. */
+    private static final int RUNS = 400, CALLS = 512, LONGEST = 100;
     private static final Check CHECK = new Check("ModelTest");
     private static final String[] WORDS = {"glass", "thick", "smoked", "mirror", "dyed", "clear"};
     private static final int[] EXTREMES = {Integer.MIN_VALUE, Integer.MIN_VALUE + 1, -65536, -100, 100, 65536,
@@ -90,7 +91,7 @@ public final class ModelTest {
 
     private void tellStack() {
         StringBuilder text = new StringBuilder();
-        int count = x.count(0);
+        int count = y.count(0);
         for (int i = draw(7); i > 0; i--) text.append((char) ('a' + draw(Math.max(1, count))));
         if (text.length() == 0) text.append('-');
         feedAll(draw(8) == 0 ? spoiled(text.toString()) : text.toString());
@@ -105,7 +106,8 @@ public final class ModelTest {
         }
         while (calls < CALLS) {
             int group = draw(20);
-            if (group < 5) build();
+            if (calls > CALLS - LONGEST) see();
+            else if (group < 5) build();
             else if (group < 9) see();
             else if (group < 12) ask();
             else if (group < 16) judge();
@@ -114,7 +116,7 @@ public final class ModelTest {
     }
 
     private void build() {
-        int sheet = about(x.count(0)), stack = about(x.count(1)), band = about(5);
+        int sheet = about(y.count(0)), stack = about(y.count(1)), band = about(5);
         switch (draw(12)) {
             case 0 -> tellSheets();
             case 1, 2 -> tellStack();
@@ -149,7 +151,7 @@ public final class ModelTest {
     }
 
     private void see() {
-        int stack = about(x.count(1)), other = about(x.count(1)), lamp = about(3), eye = about(3), part = about(2);
+        int stack = about(y.count(1)), other = about(y.count(1)), lamp = about(3), eye = about(3), part = about(2);
         int n = about(11);
         String by = " " + stack + " " + lamp + " " + n + " " + eye + " " + part;
         switch (draw(6)) {
@@ -162,7 +164,7 @@ public final class ModelTest {
             case 3 -> due("alike" + by + " other " + other, x.alike(stack, other, lamp), y.alike(stack, other, lamp));
             case 4 -> due("falsePairs" + by, x.falsePairs(lamp, part), y.falsePairs(lamp, part));
             default -> {
-                int place = about(x.count(1));
+                int place = about(y.count(1));
                 due("ranked " + lamp + " " + place, x.ranked(lamp, place), y.ranked(lamp, place));
             }
         }
@@ -170,13 +172,13 @@ public final class ModelTest {
 
     /** A wish that can come true, as often as not. */
     private void wishWell() {
-        int stack = draw(Math.max(1, x.count(1))), off = draw(2) * draw(3);
-        int red = x.shade(stack, 0, 0, 0) + off, green = x.shade(stack, 0, 0, 1), blue = x.shade(stack, 0, 0, 2);
+        int stack = draw(Math.max(1, y.count(1))), off = draw(2) * draw(3);
+        int red = y.shade(stack, 0, 0, 0) + off, green = y.shade(stack, 0, 0, 1), blue = y.shade(stack, 0, 0, 2);
         due("wish " + red + " " + green + " " + blue, x.wish(red, green, blue), y.wish(red, green, blue));
     }
 
     private void ask() {
-        int stack = about(x.count(1)), lamp = about(3), sheet = about(x.count(0)), what = about(2);
+        int stack = about(y.count(1)), lamp = about(3), sheet = about(y.count(0)), what = about(2);
         switch (draw(9)) {
             case 0 -> {
                 int red = about(60), green = about(10000), blue = about(60);
@@ -203,10 +205,10 @@ public final class ModelTest {
     /** Puts what stacks look like into a list, so that judge() and was() find something. */
     private void tellShades() {
         int list = draw(4), from = draw(4) == 0 ? draw(3) : 0, lamp = draw(3);
-        int n = draw(3) == 0 ? draw(19) : Math.min(18, 3 * Math.max(1, x.count(1)));
+        int n = draw(3) == 0 ? draw(19) : Math.min(18, 3 * Math.max(1, y.count(1)));
         due("list " + list + " " + n, x.list(list, n), y.list(list, n));
         for (int i = 0; i < n; i++) {
-            int v = x.shade(from + i / 3, lamp, 0, i % 3) + (draw(20) == 0 ? 1 : 0);
+            int v = y.shade(from + i / 3, lamp, 0, i % 3) + (draw(20) == 0 ? 1 : 0);
             due("put " + list + " " + i + " " + v, x.put(list, i, v), y.put(list, i, v));
         }
     }
@@ -215,14 +217,14 @@ public final class ModelTest {
         int list = draw(4), n = draw(19);
         due("list " + list + " " + n, x.list(list, n), y.list(list, n));
         for (int i = 0; i < n; i++) {
-            int v = i % 3 == 0 ? about(x.count(0)) : i % 3 == 1 ? about(5) : about(11);
+            int v = i % 3 == 0 ? about(y.count(0)) : i % 3 == 1 ? about(5) : about(11);
             due("put " + list + " " + i + " " + v, x.put(list, i, v), y.put(list, i, v));
         }
         due("change " + list, x.change(list), y.change(list));
     }
 
     private void judge() {
-        int stack = about(x.count(1)), lamp = about(3), sheet = about(x.count(0)), what = about(2), list = about(4);
+        int stack = about(y.count(1)), lamp = about(3), sheet = about(y.count(0)), what = about(2), list = about(4);
         switch (draw(12)) {
             case 0, 1, 2 -> due("was " + sheet + " " + stack + " " + lamp + " " + list + " " + what,
                 x.was(sheet, stack, lamp, list, what), y.was(sheet, stack, lamp, list, what));
@@ -234,7 +236,7 @@ public final class ModelTest {
             }
             case 5, 6 -> due("spell " + stack, x.spell(stack), y.spell(stack));
             case 7 -> {
-                int i = about(Math.max(1, x.count(3)));
+                int i = about(Math.max(1, y.count(3)));
                 due("paper " + i, x.paper(i), y.paper(i));
             }
             case 8, 9 -> due("judge " + list + " " + lamp, x.judge(list, lamp), y.judge(list, lamp));
