@@ -44,6 +44,7 @@ public final class WishEdgesTest {
         darkAlready();
         darkWithEight();
         darkNotWithEight();
+        darkStrongLight();
         darkAllShades();
         darkAsItIs();
         darkByEachLamp();
@@ -538,6 +539,25 @@ public final class WishEdgesTest {
         due("23 63 not with seven more", y.dark(1, 0, 0), Check.NOT);
         y.power(0, 2, 8);
         due("23 56 with eight", y.dark(0, 0, 0), 8);
+    }
+
+    /**
+     * "-5: with eight they aren't", of the strongest light: what comes through eight sheets, by tenths of a power,
+     * is more than a long holds, and 184, 185 and 369 would look dark then.
+     */
+    private static void darkStrongLight() {
+        int[][] powers = {{1, 1, 5, 9, 9}, {1, 1, 7, 9, 9}, {5, 9, 9, 9, 9}, {9, 9, 9, 9, 9}};
+        int[][] weights = {{1, 1, 4, 9, 9}, {1, 1, 3, 9, 9}, {9, 9, 9, 9, 9}, {9, 9, 9, 9, 9}};
+        int[] shades = {184, 185, 369, 405};
+        for (int i = 0; i < shades.length; i++) {
+            ColourStacks x = with("glass 0 10,10,10,10,10", "-", "aaaaaa");
+            Check.powers(x, 0, powers[i]);
+            for (int eye = 0; eye < 3; eye++) Check.weights(x, eye, weights[i]);
+            for (int stack = 0; stack < 2; stack++) {
+                due("23 as bright as " + shades[i], x.shade(stack, 0, 0, 2), shades[i]);
+                due("23 never dark " + shades[i], x.dark(stack, 0, 0), Check.NOT);
+            }
+        }
     }
 
     /** "till all SHADES are 0": each of the three. */
